@@ -346,7 +346,8 @@ public final class PalletStack {
     }
 
     private int topOf(int x, int y) {
-        return isCell(x, y) ? tops[y * FIELD_WIDTH + x] : 0;
+        int cell = y * FIELD_WIDTH + x;
+        return cell >= 0 && cell < FIELD_CELLS ? tops[cell] : 0;
     }
 
     private int countOf(int what) {
@@ -453,6 +454,8 @@ public final class PalletStack {
         return standing;
     }
 
+    // ---- from above
+
     // Boxes are let down from above, so that an item has a greater number than all that carry it:
     // going through the numbers downwards, each item is seen before those on which it stands.
 
@@ -473,18 +476,6 @@ public final class PalletStack {
         return lower.isReached;
     }
 
-    // ---- loads
-
-    /** Reckons the next loads of all items; those that the trial gives stand there already. */
-    private void passLoadsDown() {
-        for (int i = cameCount - 1; i >= 0; i--) {
-            Item item = itemOf(i);
-            if (item != null) {
-                item.passLoadDown();
-            }
-        }
-    }
-
     private void forgetNextLoads() {
         for (int i = 0; i < cameCount; i++) {
             Item item = itemOf(i);
@@ -496,11 +487,11 @@ public final class PalletStack {
 
     private void settleLoads() {
         forgetNextLoads();
-        passLoadsDown();
-        for (int i = 0; i < cameCount; i++) {
+        for (int i = cameCount - 1; i >= 0; i--) {
             Item item = itemOf(i);
             if (item != null) {
                 item.load = item.nextLoad;
+                item.passLoadDown();
             }
         }
     }
@@ -510,11 +501,13 @@ public final class PalletStack {
         forgetNextLoads();
         trial.nextLoad = 0;
         trial.passLoadDown();
-        passLoadsDown();
-        for (int i = 0; i < cameCount; i++) {
+        for (int i = cameCount - 1; i >= 0; i--) {
             Item item = itemOf(i);
             if (item != null && item.nextLoad > item.strength) {
                 return true;
+            }
+            if (item != null) {
+                item.passLoadDown();
             }
         }
         return false;
@@ -620,6 +613,10 @@ public final class PalletStack {
                 place = code;
                 leastBottom = trial.bottom;
                 mostGround = trial.ground;
+                if (leastBottom == 0) {
+                    // All its cells are ground on the deck: nothing later is better.
+                    return place;
+                }
             }
         }
         return place;

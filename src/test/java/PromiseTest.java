@@ -8,6 +8,7 @@ public final class PromiseTest {
 
     public static void main(String[] args) {
         promise1NewObject();
+        promise1FirstRules();
         promise2AddKind();
         promise3SetRules();
         promise4Count();
@@ -72,6 +73,29 @@ public final class PromiseTest {
         PalletStack other = with(kind(1, 1, 1, 1, 1, 0));
         other.put(0, 0, 0, false);
         Checks.same("objects share nothing", s.count(0) + s.count(1), 0);
+    }
+
+    private static void promise1FirstRules() {
+        PalletStack s = with(kind(5, 1, 8, 500, 5000, 0), kind(1, 1, 4, 500, 5000, 0), kind(1, 1, 5, 1, 0, 0),
+                kind(1, 1, 1, 1, 0, 0), kind(3, 1, 8, 1, 5000, 0));
+        s.put(0, 0, 0, false);
+        s.put(0, 0, 0, false);
+        Checks.same("a top at 20", s.reason(1, 0, 0, false), 0);
+        Checks.same("a top at 21", s.reason(2, 0, 0, false), 2);
+        s.put(0, 0, 2, false);
+        Checks.same("2000 together", s.reason(1, 0, 4, false), 0);
+        s.put(1, 0, 4, false);
+        Checks.same("2001 together", s.reason(3, 6, 4, false), 7);
+        s.clear();
+        s.put(4, 0, 0, false);
+        Checks.same("ground of 60 and no corners", s.reason(0, 0, 0, false), 0);
+        Checks.same("ground of 40", s.reason(0, 1, 0, false), 4);
+        PalletStack ground = with(kind(6, 2, 1, 1, 0, 0), kind(6, 1, 1, 1, 5000, 0), kind(1, 1, 1, 1, 5000, 0));
+        ground.put(1, 0, 0, false);
+        ground.put(2, 0, 1, false);
+        Checks.same("ground of 7 in 12 cells is less than 60", ground.reason(0, 0, 0, false), 4);
+        ground.put(2, 1, 1, false);
+        Checks.same("ground of 8 in 12 cells is more than 60", ground.reason(0, 0, 0, false), 0);
     }
 
     private static void promise2AddKind() {
@@ -429,6 +453,14 @@ public final class PromiseTest {
         s.setRules(20, 60, 60, false);
         Checks.same("the limit", s.best(0), -1);
         Checks.same("telling puts nothing", s.count(2), 6);
+        PalletStack last = with(kind(6, 5, 1, 1, 0, 0), kind(1, 1, 1, 1, 0, 0), kind(6, 4, 1, 1, 0, 0),
+                kind(5, 1, 1, 1, 0, 0));
+        last.put(0, 0, 0, false);
+        last.put(0, 6, 0, false);
+        last.put(0, 0, 5, false);
+        last.put(2, 6, 5, false);
+        last.put(3, 6, 9, false);
+        Checks.same("the very last cell", last.best(1), code(11, 9, 0));
     }
 
     private static void promise12BestTurned() {
@@ -590,6 +622,13 @@ public final class PromiseTest {
         Checks.same("lines start again", s.addLine(0, 2), 0);
         Checks.same("the rules stay", s.setRules(20, 60, 2000, false), 9);
         Checks.same("clear one", s.clear(), 1);
+        PalletStack loaded = with(kind(1, 1, 1, 10, 10, 0));
+        loaded.put(0, 0, 0, false);
+        loaded.put(0, 0, 0, false);
+        loaded.clear();
+        loaded.put(0, 0, 0, false);
+        Checks.same("a load before counts no more", loaded.reason(0, 0, 0, false), 0);
+        Checks.same("it can be put there", loaded.put(0, 0, 0, false), 1);
         Checks.same("clear none", s.clear(), 0);
     }
 
@@ -604,6 +643,10 @@ public final class PromiseTest {
         Checks.same("greatest top", s.sum(1), 5);
         Checks.same("greatest load", s.sum(2), 20);
         Checks.same("covered deck", s.sum(3), 12);
+        PalletStack light = with(kind(1, 1, 1, 1, 1, 0));
+        light.put(0, 0, 0, false);
+        light.put(0, 0, 0, false);
+        Checks.same("greatest load of 1", light.sum(2), 1);
         for (int what : new int[] {-1, 4, LEAST, GREATEST}) {
             Checks.fails("sum " + what, s, INDEX, () -> s.sum(what));
         }
