@@ -27,9 +27,12 @@ public final class PromiseTest {
         promise12Best();
         promise12BestTurned();
         promise13Fill();
+        promise13FillAboveRefusedPlaces();
         promise14AddLine();
         promise15StackOrder();
         promise15PutAside();
+        promise15AsideStaysAside();
+        promise15LinesAreAsideNotKinds();
         promise16Line();
         promise17Clear();
         promise18Sum();
@@ -519,6 +522,27 @@ public final class PromiseTest {
         Checks.same("fill to the limit", s.fill(0, 60), 2);
     }
 
+    /** The search tries lower places behind the best one: what is put there must not be taken for their load. */
+    private static void promise13FillAboveRefusedPlaces() {
+        PalletStack s = with(kind(6, 5, 2, 1, 50, 0), kind(6, 5, 1, 1, 0, 0), kind(1, 1, 1, 5, 0, 0));
+        s.put(0, 0, 0, false);
+        s.put(1, 6, 0, false);
+        s.put(1, 0, 5, false);
+        s.put(1, 6, 5, false);
+        Checks.same("lower places bear nothing", s.reason(2, 6, 0, false), 6);
+        Checks.same("fill on the one that bears", s.fill(2, 1), 1);
+        facts("on the one that bears", s, 4, 2, 0, 0, 2, 3, 0, 0, 0, 1, 1);
+        Checks.same("it bears the box", s.item(0, 6), 5);
+        s.addLine(2, 1);
+        Checks.same("stack on the one that bears", s.stack(), 1);
+        facts("beside the box before", s, 5, 2, 1, 0, 2, 3, 0, 0, 0, 1, 1);
+        Checks.same("it bears both", s.item(0, 6), 10);
+        Checks.same("two stand on it", s.item(0, 7), 2);
+        for (int lower = 1; lower < 4; lower++) {
+            Checks.same("a lower place bears nothing", s.item(lower, 6), 0);
+        }
+    }
+
     private static void promise14AddLine() {
         PalletStack s = with(kind(1, 1, 1, 1, 0, 0), kind(1, 1, 1, 1, 0, 0));
         for (int kind : new int[] {-1, 2, GREATEST}) {
@@ -584,6 +608,46 @@ public final class PromiseTest {
         Checks.same("60 came", s.stack(), 60);
         Checks.same("the last count", s.line(2, true), 1);
         Checks.same("60 came before", s.stack(), 0);
+    }
+
+    /** The last two cells of the deck are free; what stands on the others bears nothing. */
+    private static void coverAllButTwo(PalletStack s) {
+        int large = s.addKind(6, 5, 1, 1, 0, 0);
+        s.put(large, 0, 0, false);
+        s.put(large, 6, 0, false);
+        s.put(large, 0, 5, false);
+        s.put(s.addKind(6, 4, 1, 1, 0, 0), 6, 5, false);
+        s.put(s.addKind(4, 1, 1, 1, 0, 0), 6, 9, false);
+    }
+
+    private static void promise15AsideStaysAside() {
+        PalletStack s = new PalletStack();
+        coverAllButTwo(s);
+        Checks.same("the stronger kind", s.addKind(3, 1, 1, 6, 90, 0), 3);
+        Checks.same("the weaker kind", s.addKind(1, 1, 2, 1, 80, 0), 4);
+        s.addLine(3, 1);
+        s.addLine(4, 2);
+        // Two cells are too few for the stronger kind, until the weaker one makes it a place.
+        Checks.same("the stronger kind finds no place", s.best(3), -1);
+        Checks.same("the others are put", s.stack(), 2);
+        Checks.same("then it would find one", s.best(3), code(9, 9, 0));
+        Checks.same("but was put aside", s.line(0, true), 1);
+        Checks.same("the next stack puts it", s.stack(), 1);
+        facts("on the two that bear it", s, 7, 3, 9, 9, 2, 3, 0, 0, 0, 2, 2);
+    }
+
+    private static void promise15LinesAreAsideNotKinds() {
+        PalletStack s = new PalletStack();
+        coverAllButTwo(s);
+        Checks.same("a long kind", s.addKind(3, 1, 1, 6, 90, 0), 3);
+        Checks.same("a short kind, as strong and as heavy", s.addKind(1, 1, 2, 6, 90, 0), 4);
+        s.addLine(3, 1);
+        s.addLine(4, 2);
+        s.addLine(3, 1);
+        Checks.same("the last line finds the place made for it", s.stack(), 3);
+        Checks.same("the first line is aside", s.line(0, true), 1);
+        Checks.same("the second line is empty", s.line(1, true), 0);
+        Checks.same("the last line is empty", s.line(2, true), 0);
     }
 
     private static void promise16Line() {
