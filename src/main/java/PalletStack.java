@@ -652,16 +652,17 @@ public final class PalletStack {
 
     /** Makes the trial an item where it was let down; whoever calls has seen that it is allowed. */
     private void putTrial() {
-        Item unused = isWithin(cameCount, 0, MOST_ITEMS - 1) ? items[cameCount] : null;
+        int number = cameCount;
+        Item unused = isWithin(number, 0, MOST_ITEMS - 1) ? items[number] : null;
         if (unused == null) {
             return;
         }
         findSupports();
         Item item = trial;
         trial = unused;
-        items[cameCount] = item;
+        items[number] = item;
         item.isOnPallet = true;
-        cameCount++;
+        cameCount = number + 1;
         onPalletCount++;
         weightOnPallet += item.weight;
         layTop(item);
